@@ -49,6 +49,9 @@ final class DeedsTest {
         Check.fails("one is pinned", UNSUPPORTED, press, () -> press.rename(99, 5));
         Check.same("another one is pinned", 1, press.rename(2, 5));
         Check.same("the pinned ones stay", "n99:1 c1 { n99:2 n5:3 } n99:4!", Texts.show(press));
+        LintPress pinnedFirst = Texts.make("n1:1! n1:2");
+        Check.fails("the first one is pinned", UNSUPPORTED, pinnedFirst, () -> pinnedFirst.rename(1, 5));
+        Check.fails("pinned, and does not occur", ELEMENT, pinnedFirst, () -> pinnedFirst.rename(2, 1));
         Check.same("comments have no name 0", "NoSuchElementException",
                 Check.thrownBy(() -> Texts.make("c1 { }").rename(0, 1)));
         Check.same("comments do not keep a name from being used", 1, Texts.make("c1 n1:1").rename(1, 0));

@@ -19,6 +19,7 @@ final class FindingsTest {
         canFix();
         best();
         bestByTrying();
+        leastWeight();
         isInBest();
         fix();
         fixedEntries();
@@ -145,12 +146,27 @@ final class FindingsTest {
         Check.same("all pinned", 0, pinned.bestByTrying());
     }
 
+    /** Five fixes of rule 3 make the weight 9, and undone they make it 1: that is still greater than 0. */
+    private static void leastWeight() {
+        LintPress press = Texts.make(Texts.repeat("c1", 10));
+        press.fixBest();
+        press.undo();
+        Check.same("weight", 1, press.weight(3));
+        Check.same("can be fixed with weight 1", true, press.canFix(0));
+        Check.same("sum with weight 1", 5, press.best());
+        Check.same("sum by trying with weight 1", 5, press.bestByTrying());
+        Check.same("entries when fixed with weight 1", 9, press.fix(0));
+        Check.same("weight then", 2, press.weight(3));
+    }
+
     private static void isInBest() {
         Check.group("promise 22");
         Check.same("first of two that are as good", "0@0-1+* 0@1-2+", Texts.findings(Texts.make("n1:1 n1:1 n1:1")));
         Check.same("heavier one behind", "3@1-2+ 2@2-3+*", Texts.findings(Texts.make("{ c1 c1 }")));
         Check.same("both ends of a chain", "3@1-2+* 3@2-3+ 2@3-4+*", Texts.findings(Texts.make("{ c1 c1 c1 }")));
         Check.same("pinned one is not in it", "0@0-1 0@1-2+*", Texts.findings(Texts.make("n1:1! n1:1 n1:1")));
+        Check.same("nor is a pinned one alone", "0@0-1", Texts.findings(Texts.make("n1:1! n1:1")));
+        Check.same("nor one with weight 0", false, weightless(3).isInBest(0));
         Check.same("first ones of a chain of five", "0@0-1+* 0@1-2+ 0@2-3+* 0@3-4+",
                 Texts.findings(Texts.make(Texts.repeat("n1:1", 5))));
         Check.same("rule 4", "4@0-2+*", Texts.findings(Texts.make("{ n1:1 }")));

@@ -62,6 +62,10 @@ final class LinesTest {
         checkLines("a line of 1 costs more than one too wide", "{ c8 c9", "2 1");
         checkLines("pinned ones stay together", "n1:9! n2:9! n3:9", "2 1");
         checkLines("two pinned spans may be parted by one entry", "n1:9! n2:9 n3:9!", "1 1 1");
+        LintPress thirty = narrow(Texts.repeat("c9", 30));
+        Check.same("a line for each", 30, thirty.layOut());
+        Check.same("the last line", 29, thirty.lineOf(29));
+        Check.same("the last line's width", 13, thirty.lineWidth(29));
         Check.same("one line for all", 1, Texts.make(Texts.repeat("n1:1", 20)).layOut());
         checkLines("of ways as good the fullest first line", "n1:9 n2:3 n3:9 c9", "2 1 1");
         checkLines("of ways as good the fullest second line", "c9 n1:9 n2:3 n3:9 c9", "1 2 1 1");
