@@ -12,6 +12,12 @@ public final class AllTests {
         DeedsTest.run();
         LinesTest.run();
         RandomRunsTest.run();
+        TermsSentences.run();
+        EntriesSentences.run();
+        FindingsSentences.run();
+        DeedsSentences.run();
+        LinesSentences.run();
+        Sentences.checkAll(root);
         SourceTest.run(root);
         System.out.println("own tests: " + Check.passed() + " answers as due, " + Check.failed() + " not as due");
         if (Check.failed() > 0 || Check.passed() == 0) {

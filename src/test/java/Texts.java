@@ -126,4 +126,26 @@ final class Texts {
         return String.join("|", show(press), findings(press), "" + press.best(), weights(press), undone(press), share,
                 lines(press), "" + press.cost(), "" + press.isTidy());
     }
+
+    /** All that can be asked, then the width, then all that each undo leaves; the object is of no use behind it. */
+    static String history(LintPress press) {
+        StringJoiner all = new StringJoiner("\n");
+        all.add(state(press));
+        all.add("width " + press.setWidth(40));
+        String left = undo(press);
+        while (!left.isEmpty()) {
+            all.add(left + " left: " + state(press));
+            left = undo(press);
+        }
+        return all.toString();
+    }
+
+    /** The number of deeds that are left, or nothing if none can be undone. */
+    private static String undo(LintPress press) {
+        try {
+            return "" + press.undo();
+        } catch (IllegalStateException none) {
+            return "";
+        }
+    }
 }
