@@ -99,6 +99,11 @@ final class LinesSentences {
         Check.same("not laid out by it", false, press.isLaidOut());
         press.layOut();
         Check.same("laid out", 97, press.cost());
+        LintPress shorter = at(13, "n1:9 n1:9 n1:9");
+        Check.same("two lines of 9", 32, shorter.cost());
+        shorter.fix(0);
+        shorter.fix(0);
+        Check.same("two entries less", 0, shorter.cost());
         Sentences.of(35, "Returns the sum.");
         Check.same("no entries", 0, new LintPress().cost());
         Check.same("one line, however short", 0, at(60, "{").cost());

@@ -212,6 +212,10 @@ final class TermsSentences {
         weightOne.fixBest();
         weightOne.undo();
         Check.same("weight 1", "1 true", weightOne.weight(3) + " " + weightOne.canFix(0));
+        Check.same("the best set with weight 1", "5 5", weightOne.best() + " " + weightOne.bestByTrying());
+        Check.same("a fix with weight 1", 9, weightOne.fix(0));
+        weightOne.undo();
+        Check.same("weight 2 less by 1", 1, weightOne.weight(3));
         weightOne.fixBest();
         weightOne.undo();
         Check.same("weight 0", "0 false", weightOne.weight(3) + " " + weightOne.canFix(0));
