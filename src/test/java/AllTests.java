@@ -19,6 +19,7 @@ public final class AllTests {
         LinesSentences.run();
         Sentences.checkAll(root);
         SourceTest.run(root);
+        ReadmeTest.run(root);
         System.out.println("own tests: " + Check.passed() + " answers as due, " + Check.failed() + " not as due");
         if (Check.failed() > 0 || Check.passed() == 0) {
             System.exit(1);

@@ -15,6 +15,8 @@ import java.util.regex.Pattern;
 /** The face is the document's one, and the source keeps to those rules of LANGUAGE.md that can be told by its words. */
 final class SourceTest {
     private static final Pattern SIGNATURE = Pattern.compile("public (\\w+) (\\w+)\\(([^)]*)\\)");
+    private static final Pattern METHOD = Pattern.compile("(?m)^((?: {4}){1,2})(?! |\\})[^\\n]*\\)"
+            + "(?:\\n +throws)?[^\\n;]* \\{\\n((?s:.*?))^\\1\\}$");
 
     private SourceTest() {
     }
@@ -26,8 +28,14 @@ final class SourceTest {
         Check.same("public and final", true, Modifier.isFinal(LintPress.class.getModifiers()));
         onlyPrivateBesides();
         Check.group("the language");
-        words(Files.readString(root.resolve("src/main/java/LintPress.java")));
+        String source = Files.readString(root.resolve("src/main/java/LintPress.java"));
+        words(source);
+        methodLengths(source);
         privateNames();
+        sizes(LintPress.class);
+        for (Class<?> inside : LintPress.class.getDeclaredClasses()) {
+            sizes(inside);
+        }
     }
 
     private static Set<String> dueMethods(Path root) throws IOException {
@@ -100,6 +108,26 @@ final class SourceTest {
                 Check.same(method + " has a name of its own", false, face.contains(method.getName()));
             }
         }
+    }
+
+    private static void sizes(Class<?> one) {
+        for (Method method : one.getDeclaredMethods()) {
+            Check.same(method + " takes at most seven parameters", true, method.getParameterCount() <= 7);
+        }
+        long fields = Arrays.stream(one.getDeclaredFields()).filter(f -> !Modifier.isStatic(f.getModifiers())).count();
+        Check.same(one + " has at most twenty fields", true, fields <= 20);
+    }
+
+    /** A method's first and last line are told by their indents: 4 in the class, 8 in a class inside. */
+    private static void methodLengths(String source) {
+        Matcher method = METHOD.matcher(source);
+        int methods = 0;
+        while (method.find()) {
+            methods++;
+            long lines = method.group(2).lines().count();
+            Check.same(method.group().lines().findFirst().orElse("").strip() + " has at most sixty lines", true, lines <= 60);
+        }
+        Check.same("methods are found", true, methods >= 100);
     }
 
     private static void words(String source) {
